@@ -592,6 +592,8 @@ public final class SlateSum {
         private int rows;
         // Grows with every change, so that what was reckoned of the signs is known to be old.
         private int changes;
+        // Grows with every change of kind, base, rest or lengths alone.
+        private int shapes;
         private final int[] lengths = new int[MOST_ROWS];
         private final int[] marks = new int[PLACES];
 
@@ -637,6 +639,7 @@ public final class SlateSum {
             rest = 0;
             rows = 0;
             changes++;
+            shapes++;
         }
 
         void write(int q, int sign) {
@@ -647,6 +650,7 @@ public final class SlateSum {
         void setLength(int row, int length) {
             put(lengths, row, length);
             changes++;
+            shapes++;
         }
 
         void copyFrom(Sheet other) {
@@ -655,6 +659,7 @@ public final class SlateSum {
             rest = other.rest;
             rows = other.rows;
             changes++;
+            shapes++;
             for (int row = 0; row < MOST_ROWS; row++) {
                 put(lengths, row, pick(other.lengths, row));
             }
@@ -1047,6 +1052,7 @@ public final class SlateSum {
         private final int[] values = new int[MOST_ROWS];
         private final int[] low = new int[MOST_ROWS];
         private final int[] high = new int[MOST_ROWS];
+        private final int[] toldIn = new int[MOST_ROWS];
         private final int[] missesOfY = new int[MOST_Y];
         private final int[] figureOfLetter = new int[LETTERS];
         private boolean lettered;
@@ -1086,13 +1092,16 @@ public final class SlateSum {
         void begin(int newSlack) {
             slack = newSlack;
             lettered = false;
-            for (int q = 0; q < PLACES; q++) {
-                lettered = lettered || (sheet.holds(q) && pick(asked, q) >= FIRST_LETTER);
-            }
             for (int row = 0; row < sheet.rows; row++) {
                 int length = sheet.lengthOf(row);
                 put(low, row, length <= 1 ? 0 : power(sheet.base, length - 1));
                 put(high, row, power(sheet.base, length) - 1);
+                put(toldIn, row, 0);
+                for (int place = 0; place < length; place++) {
+                    int sign = pick(asked, placeOf(row, place));
+                    put(toldIn, row, pick(toldIn, row) + (sign < LOST ? 1 : 0));
+                    lettered = lettered || sign >= FIRST_LETTER;
+                }
             }
             int rowOfY = sheet.rowOfY();
             for (int n = 0; n < MOST_Y && n <= pick(high, rowOfY); n++) {
@@ -1136,7 +1145,6 @@ public final class SlateSum {
             if (!lengthsFit()) {
                 return false;
             }
-            missesIn(sheet.rowOfY(), y);
             for (int row = 0; row < sheet.rows; row++) {
                 if (row != sheet.rowOfX() && row != sheet.rowOfY()) {
                     misses += missesIn(row, pick(values, row));
@@ -1158,29 +1166,39 @@ public final class SlateSum {
             return true;
         }
 
-        /** Writes the figures of a row's number down and counts the told ones that are otherwise. */
+        /** How many of a row's told figures are otherwise than in its number. */
         private int missesIn(int row, int number) {
             int base = sheet.base;
             int left = number;
             int found = 0;
-            if (base < 2) {
+            if (base < 2 || pick(toldIn, row) == 0) {
                 return 0;
             }
             for (int place = sheet.lengthOf(row) - 1; place >= 0; place--) {
-                int q = placeOf(row, place);
-                int figure = left % base;
-                int sign = pick(asked, q);
-                left /= base;
-                put(figures, q, figure);
-                if (sign < LOST && sign != figure) {
+                int sign = pick(asked, placeOf(row, place));
+                if (sign < LOST && sign != left % base) {
                     found++;
                 }
+                left /= base;
             }
             return found;
         }
 
+        /** Writes down the figures of all rows. */
+        void spell() {
+            int base = sheet.base;
+            for (int row = 0; row < sheet.rows && base > 1; row++) {
+                int left = pick(values, row);
+                for (int place = sheet.lengthOf(row) - 1; place >= 0; place--) {
+                    put(figures, placeOf(row, place), left % base);
+                    left /= base;
+                }
+            }
+        }
+
         private boolean lettersFit() {
             int taken = 0;
+            spell();
             for (int i = 0; i < LETTERS; i++) {
                 put(figureOfLetter, i, NONE);
             }
@@ -1256,14 +1274,8 @@ public final class SlateSum {
             return pick(figures, q);
         }
 
-        /** The last place at which what was reckoned is otherwise than what the slate tells. */
-        int lastUnlike() {
-            for (int q = PLACES - 1; q >= 0; q--) {
-                if (sheet.holds(q) && pick(figures, q) != sheet.signAt(q)) {
-                    return q;
-                }
-            }
-            return NONE;
+        int valueOf(int row) {
+            return pick(values, row);
         }
 
         /** Of a full slate the first place that is otherwise than its X and Y ask. */
@@ -1274,13 +1286,11 @@ public final class SlateSum {
                 return 10 * sheet.rowOfX();
             }
             reckon(someX, someY);
-            askNothing();
+            spell();
             for (int row = 0; row < sheet.rows; row++) {
-                int value = pick(values, row);
-                if (lengthOf(value) != sheet.lengthOf(row)) {
+                if (lengthOf(pick(values, row)) != sheet.lengthOf(row)) {
                     return 10 * row;
                 }
-                missesIn(row, value);
                 for (int place = 0; place < sheet.lengthOf(row); place++) {
                     int q = placeOf(row, place);
                     if (pick(figures, q) != sheet.signAt(q)) {
@@ -1294,13 +1304,12 @@ public final class SlateSum {
         /** All rows as X and Y ask, each as long as it is then. */
         void writeRows(int someX, int someY) {
             reckon(someX, someY);
-            askNothing();
             for (int row = 0; row < sheet.rows; row++) {
-                int value = pick(values, row);
-                sheet.setLength(row, lengthOf(value));
-                missesIn(row, value);
-                for (int place = 0; place < sheet.lengthOf(row); place++) {
-                    int q = placeOf(row, place);
+                sheet.setLength(row, lengthOf(pick(values, row)));
+            }
+            spell();
+            for (int q = 0; q < PLACES; q++) {
+                if (sheet.holds(q)) {
                     sheet.write(q, pick(figures, q));
                 }
             }
@@ -1328,6 +1337,7 @@ public final class SlateSum {
         private int lostTotal;
         private int reckonedAt = NONE;
         private int coveredAt = NONE;
+        private int lostAt = NONE;
 
         Results(Sheet sheet, Search search) {
             this.sheet = sheet;
@@ -1361,6 +1371,7 @@ public final class SlateSum {
         }
 
         private void addFigures() {
+            search.spell();
             for (int row = 0; row < sheet.rows; row++) {
                 for (int place = 0; place < sheet.lengthOf(row); place++) {
                     int q = placeOf(row, place);
@@ -1450,8 +1461,8 @@ public final class SlateSum {
         }
 
         int totalLost() {
-            refreshCovered();
-            if (lostTotal == NONE) {
+            if (lostAt != sheet.shapes) {
+                lostAt = sheet.shapes;
                 search.askNothing();
                 lostTotal = found();
             }
@@ -1463,7 +1474,6 @@ public final class SlateSum {
                 return;
             }
             coveredAt = sheet.changes;
-            lostTotal = NONE;
             for (int row = 0; row < MOST_ROWS; row++) {
                 put(covered, row, NONE);
             }
@@ -1517,6 +1527,7 @@ public final class SlateSum {
         }
 
         private void addMend() {
+            search.spell();
             for (int q = 0; q < PLACES; q++) {
                 boolean told = sheet.holds(q) && sheet.signAt(q) < LOST;
                 if (told && sheet.signAt(q) != search.figureAt(q)) {
@@ -1558,6 +1569,7 @@ public final class SlateSum {
     private static final class Lean {
         private final Sheet sheet;
         private final Search search;
+        private final int[] numbers = new int[MOST_ROWS];
         private long left;
         private int reckonedAt = NONE;
 
@@ -1576,6 +1588,9 @@ public final class SlateSum {
             }
             reckonedAt = sheet.changes;
             left = 0;
+            for (int row = 0; row < sheet.rows; row++) {
+                put(numbers, row, sheet.numberIn(row));
+            }
             search.askNothing();
             for (int n = 0; n < PLACES; n++) {
                 int q = nextThatStays();
@@ -1591,12 +1606,35 @@ public final class SlateSum {
             int earliest = NONE;
             search.begin(0);
             for (int n = 0; n < PAIRS && search.next(); n++) {
-                int last = search.lastUnlike();
+                int last = lastUnlike();
                 if (last >= 0 && (earliest == NONE || last < earliest)) {
                     earliest = last;
                 }
             }
             return earliest;
+        }
+
+        /** The last place at which the sum found is otherwise than the slate tells. */
+        private int lastUnlike() {
+            for (int row = sheet.rows - 1; row >= 0; row--) {
+                if (search.valueOf(row) != pick(numbers, row)) {
+                    return lastUnlikeIn(row, search.valueOf(row), pick(numbers, row));
+                }
+            }
+            return NONE;
+        }
+
+        private int lastUnlikeIn(int row, int found, int told) {
+            int base = sheet.base;
+            int a = found;
+            int b = told;
+            int place = sheet.lengthOf(row) - 1;
+            while (place > 0 && base > 1 && a % base == b % base) {
+                a /= base;
+                b /= base;
+                place--;
+            }
+            return placeOf(row, place);
         }
 
         int total() {
@@ -1652,7 +1690,7 @@ public final class SlateSum {
             search.begin(0);
             for (int n = 0; n < MOST_TO_LOOK && search.next(); n++) {
                 for (int row = 0; row < MOST_ROWS; row++) {
-                    put(values, n * MOST_ROWS + row, pick(search.values, row));
+                    put(values, n * MOST_ROWS + row, search.valueOf(row));
                 }
                 put(members, n, n);
                 total++;
