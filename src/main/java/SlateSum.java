@@ -57,7 +57,7 @@ public final class SlateSum {
 
     public SlateSum() {
         tape = new Tape();
-        signs = new Signs(tape);
+        signs = new Signs();
         sheetReader = new SheetReader(signs);
         costReader = new CostReader(signs);
         costTapes = new Tape[MOST_COSTS];
@@ -206,12 +206,12 @@ public final class SlateSum {
         }
         int cheapest = HIDDEN;
         int worth = 0;
-        costReader.open(costTape(holding));
         for (int q = 0; q < PLACES; q++) {
-            if (!sheet.holds(q) || Integer.bitCount(results.figuresAt(q)) < 2) {
+            int figures = sheet.holds(q) ? Integer.bitCount(results.figuresAt(q)) : 0;
+            if (figures < 2) {
                 continue;
             }
-            int here = worthAt(q);
+            int here = worthAt(q, figures);
             if (cheapest == HIDDEN || here < worth) {
                 cheapest = codeOf(q);
                 worth = here;
@@ -267,6 +267,7 @@ public final class SlateSum {
         if (wrong() != NONE) {
             return HIDDEN;
         }
+        leanest.refresh();
         return i == NONE ? leanest.total() : leanest.leftAt(i);
     }
 
@@ -376,7 +377,7 @@ public final class SlateSum {
         return acts.size();
     }
 
-    private int worthAt(int place) {
+    private int worthAt(int place, int figures) {
         if (holding < 0) {
             return 0;
         }
@@ -385,8 +386,8 @@ public final class SlateSum {
         costReader.setLetter(1, place - placeOf(row, 0));
         costReader.setLetter(2, sheet.rows);
         costReader.setLetter(3, sheet.lengthOf(row));
-        costReader.setLetter(4, Integer.bitCount(results.figuresAt(place)));
-        return costReader.worth();
+        costReader.setLetter(4, figures);
+        return costReader.faultOf(costTape(holding)) == NONE ? costReader.worth() : 0;
     }
 
     private int drawNumber(int figures) {
@@ -482,10 +483,6 @@ public final class SlateSum {
             return length;
         }
 
-        int byteAt(int i) {
-            return i < length ? pick(bytes, i) : TEXT_ENDS;
-        }
-
         void append(int one) {
             if (length < MOST_BYTES) {
                 put(bytes, length, one);
@@ -507,26 +504,16 @@ public final class SlateSum {
 
     /** Reads the signs of a text one by one and stays at the first that cannot stand there. */
     private static final class Signs {
-        private Tape source;
+        private int[] bytes = new int[0];
+        private int length;
         private int next;
         private boolean stopped;
 
-        Signs(Tape source) {
-            this.source = source;
-        }
-
-        void open(Tape other) {
-            source = other;
-            rewind();
-        }
-
-        void rewind() {
+        void open(Tape source) {
+            bytes = source.bytes;
+            length = source.length;
             next = 0;
             stopped = false;
-        }
-
-        boolean hasStopped() {
-            return stopped;
         }
 
         int stoppedWhere() {
@@ -542,10 +529,10 @@ public final class SlateSum {
             if (stopped) {
                 return TEXT_FAILED;
             }
-            for (int n = 0; n < MOST_BYTES && source.byteAt(next) == ' '; n++) {
+            while (next < length && next < bytes.length && bytes[next] == ' ') {
                 next++;
             }
-            return source.byteAt(next);
+            return next < length && next < bytes.length ? bytes[next] : TEXT_ENDS;
         }
 
         void step() {
@@ -572,7 +559,7 @@ public final class SlateSum {
                 number = number * 10 + sign - '0';
                 digits++;
                 next++;
-                sign = source.byteAt(next);
+                sign = next < length ? pick(bytes, next) : TEXT_ENDS;
             }
             if (digits == 0 || (sign >= '0' && sign <= '9')) {
                 stop();
@@ -606,7 +593,7 @@ public final class SlateSum {
         }
 
         int lengthOf(int row) {
-            return hasRow(row) ? pick(lengths, row) : 0;
+            return row >= 0 && row < rows && row < lengths.length ? lengths[row] : 0;
         }
 
         boolean has(int row, int place) {
@@ -614,7 +601,7 @@ public final class SlateSum {
         }
 
         boolean holds(int q) {
-            return q >= 0 && has(q / MOST_FIGURES, q % MOST_FIGURES);
+            return q >= 0 && q % MOST_FIGURES < lengthOf(q / MOST_FIGURES);
         }
 
         int signAt(int q) {
@@ -815,38 +802,29 @@ public final class SlateSum {
             this.signs = signs;
         }
 
-        void open(Tape source) {
-            signs.open(source);
-        }
-
-        int faultOf(Tape source) {
-            signs.open(source);
-            readClauses();
-            return signs.stoppedWhere();
-        }
-
         void setLetter(int which, int value) {
             put(letters, which, value);
         }
 
         int worth() {
-            signs.rewind();
-            readClauses();
             return worth;
         }
 
-        private void readClauses() {
+        /** Reads a whole text: the byte of its fault, or NONE. */
+        int faultOf(Tape source) {
+            signs.open(source);
             found = false;
             worth = 0;
             for (int n = 0; n < MOST_BYTES; n++) {
                 if (!signs.take('y') || !signs.take(':')) {
-                    return;
+                    break;
                 }
                 readClause();
                 if (signs.peek() == TEXT_ENDS || !signs.take(';')) {
-                    return;
+                    break;
                 }
             }
+            return signs.stoppedWhere();
         }
 
         private void readClause() {
@@ -895,10 +873,7 @@ public final class SlateSum {
         }
 
         private boolean unit(int depth, boolean begun, int left) {
-            if (begun) {
-                return comparison(depth, left);
-            }
-            int sign = signs.peek();
+            int sign = begun ? TEXT_ENDS : signs.peek();
             if (sign == '!') {
                 return goesDeeper(depth) && !unit(depth + 1, false, 0);
             }
@@ -907,21 +882,18 @@ public final class SlateSum {
                 signs.take(')');
                 return holds;
             }
-            return comparison(depth, sum(depth));
-        }
-
-        private boolean comparison(int depth, int left) {
-            int sign = signs.peek();
+            int first = begun ? left : sum(depth);
+            sign = signs.peek();
             if (!compares(sign)) {
                 signs.stop();
                 return false;
             }
             signs.step();
-            int right = sum(depth);
+            int second = sum(depth);
             if (sign == '=') {
-                return left == right;
+                return first == second;
             }
-            return sign == '<' ? left < right : left > right;
+            return sign == '<' ? first < second : first > second;
         }
 
         private static boolean compares(int sign) {
@@ -1418,9 +1390,9 @@ public final class SlateSum {
             return bits;
         }
 
+        /** Of the answers reckoned last, as squaresAt, too: bestPlace goes ahead of both. */
         int mostLeftAt(int q) {
             int most = 0;
-            refresh();
             for (int figure = 0; figure < MOST_BASE; figure++) {
                 most = Math.max(most, leftBy(q, figure));
             }
@@ -1429,7 +1401,6 @@ public final class SlateSum {
 
         long squaresAt(int q) {
             long squares = 0;
-            refresh();
             for (int figure = 0; figure < MOST_BASE; figure++) {
                 long left = leftBy(q, figure);
                 squares += left * left;
@@ -1439,7 +1410,8 @@ public final class SlateSum {
 
         int bestPlace() {
             int best = NONE;
-            if (!sheet.isThere() || total() == 0) {
+            refresh();
+            if (!sheet.isThere() || total == 0) {
                 return NONE;
             }
             for (int q = 0; q < PLACES; q++) {
@@ -1582,7 +1554,7 @@ public final class SlateSum {
          * The first place that has to stay is the earliest at which some other sum is otherwise
          * for the last time; only sums that are alike there, too, are to be told apart by later places.
          */
-        private void refresh() {
+        void refresh() {
             if (reckonedAt == sheet.changes) {
                 return;
             }
@@ -1638,13 +1610,11 @@ public final class SlateSum {
         }
 
         int total() {
-            refresh();
             return Long.bitCount(left);
         }
 
         int leftAt(int i) {
             int ahead = i;
-            refresh();
             if (i < 0) {
                 return NONE;
             }
