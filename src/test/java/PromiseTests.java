@@ -149,6 +149,8 @@ public final class PromiseTests {
         fault(0, "tb990;1", 4);
         fault(0, "tb1 0;1", 2);
         fault(0, "tb1010", 4);
+        fault(0, "tb119", 4);
+        fault(0, "tb1", 2);
         fault(0, "tb5", 3);
         fault(0, "tb5 ", 4);
         fault(0, "tb5b5;", 3);
@@ -511,8 +513,11 @@ public final class PromiseTests {
 
     static void cheap() {
         SlateSum s = slate("s;1*;*;**");
+        type(s, "y:7");
+        due("a cost that does not hold", s.text(1), 0);
         due("no cost", s.cheap(0), 1);
         due("worth 0", s.cheap(1), 0);
+        s = slate("s;1*;*;**");
         due("cheap(2)", s.cheap(2), HIDDEN);
         due("cheap(-1)", s.cheap(-1), HIDDEN);
         cost(s, "y:0-r*10-p");
@@ -598,14 +603,30 @@ public final class PromiseTests {
         s = slate("s;1;2;4");
         for (int n = 0; n < 3; n++) due("no answer", s.looks(n), NONE);
         due("900 answers", slate("s;**;*;**").looks(2), NONE);
-        due("200 answers", slate("s;1**;*;1**").answers(NONE), 955);
-        s = slate("s;***;*;100");
-        due("one answer", s.answers(NONE), 1);
-        s = slate("s;1**;**;20*");
-        due("190 and more", s.answers(NONE) > 200, true);
-        due("too many", s.looks(0), NONE);
-        s = slate("s;1*;**;**");
-        due("too many", s.looks(0), NONE);
+        s = slate("t;4**;*;***");
+        due("4** by 1 and by 2", s.answers(NONE), 200);
+        due("200 are not too many", s.looks(0), 0);
+        s = slate("sb6;5*c;*;***");
+        due("201 answers", s.answers(NONE), 201);
+        for (int n = 0; n < 3; n++) due("are too many", s.looks(n), NONE);
+        // 25 by 4, 34 by 3, 35 by 3, 53 by 2, 54 by 2, 54 by 3
+        s = slate("tb6;bc;*;a5*");
+        due("six answers", s.answers(NONE), 6);
+        due("not by one look", s.looks(1), 0);
+        due("nor by two", s.looks(2), 0);
+        // 2 by 9, 3 by 6, 4 by 7, 6 by 3 and 8, 7 by 4, 8 by 6, 9 by 2
+        s = slate("t;*;*;*8");
+        due("6 by 3 or by 8", s.looks(1), 0);
+        due("then Y", s.looks(2), 1);
+        s = slate("t;a;*;9");
+        due("1, 9 (and 3, 3)", s.answers(NONE), 3);
+        due("the place of X or Y tells", s.looks(1), 1);
+        s = slate("t;*;1;*");
+        due("ten answers", s.looks(1), 1);
+        s = slate("t;7;*;*");
+        due("two answers", s.answers(NONE), 2);
+        due("by one look", s.looks(1), 1);
+        due("not by none", s.looks(0), 0);
         s = slate("mb4;***;*;1**");
         due("answers of m", s.answers(NONE), 64);
         due("64 by two looks", s.looks(2), 0);
@@ -656,6 +677,18 @@ public final class PromiseTests {
         due("wrong one elsewhere", slate("s;13;9;21").thumb(1), 1);
         due("no length", slate("s;1;1;111").heart(), 0);
         due("heart of d", slate("d;0;1;0;0;0").heart(), 32);
+        type(s, "s;1;a;*");
+        s.text(0);
+        due("heart of one more slate", s.heart(), 55);
+        type(s, "sb4;1;a;*");
+        s.text(0);
+        due("heart of another base", s.heart(), 10);
+        s.image();
+        due("3 and 3", s.drawn(3, 0), 4);
+        due("heart of other lengths", s.heart(), 6);
+        due("thumb of other lengths", s.thumb(0), 1);
+        s.back();
+        due("heart of those again", s.heart(), 10);
         due("heart of m in base 4", slate("mb4;1;1;0").heart(), 10);
     }
 
@@ -676,6 +709,9 @@ public final class PromiseTests {
         due("right again", s.lean(NONE), 3);
         due("0 and 0", slate("s;0;0;0").lean(NONE), 1);
         due("their sum alone", slate("s;0;0;0").lean(0), 20);
+        due("any X by 0 is 0: X and 0 stay", slate("t;5;0;0").lean(NONE), 2);
+        due("X", slate("t;5;0;0").lean(0), 0);
+        due("0", slate("t;5;0;0").lean(1), 20);
         due("18 by lengths and the last", slate("s;9;9;18").lean(0), 21);
         due("one alone", slate("s;9;9;18").lean(NONE), 1);
         due("letters", slate("s;1;1;a").lean(NONE), HIDDEN);

@@ -103,7 +103,11 @@ public final class SlowModelTests {
             return a;
         }
 
-        int figure(int[] a, int r, int p) { return reckon(a[0], a[1]).get(r).charAt(p) - '0'; }
+        Map<Integer, List<String>> reckoned = new HashMap<>();
+
+        int figure(int[] a, int r, int p) {
+            return reckoned.computeIfAbsent(100 * a[0] + a[1], k -> reckon(a[0], a[1])).get(r).charAt(p) - '0';
+        }
 
         int[] split(List<int[]> as, int r, int p) {
             int[] n = new int[10];
@@ -423,6 +427,31 @@ public final class SlowModelTests {
         }
     }
 
+    /** Slates of a few told figures, for which looks differ. */
+    static void fewAnswers(int rounds) {
+        for (int i = 0; i < rounds; i++) {
+            Model m = new Model();
+            m.kind = "tdsm".charAt(roll(4));
+            m.base = roll(2) == 0 ? 10 : 4 + roll(7);
+            int wx = 1 + roll(2), wy = 1 + roll(2);
+            int rows = m.kind == 'd' ? 3 + 2 * wx : m.kind == 't' && wy == 2 ? 5 : 3;
+            for (int r = 0; r < rows; r++) {
+                char[] row = new char[r == m.rowX() ? wx : r == 1 ? wy : 1 + roll(3)];
+                for (int p = 0; p < row.length; p++) {
+                    int d = roll(10);
+                    row[p] = d < 3 ? (char) ('0' + roll(m.base)) : d < 5 ? (char) ('a' + roll(3)) : '*';
+                }
+                m.rows.add(row);
+            }
+            List<int[]> as = m.answers(m.rows);
+            SlateSum s = new SlateSum();
+            type(s, textOf(m));
+            s.text(0);
+            for (int n = 0; n < 3; n++)
+                due("looks(" + n + ")", s.looks(n), as.isEmpty() || as.size() > 200 ? -1 : m.settles(as, n) ? 1 : 0, m, "few");
+        }
+    }
+
     static void manyActs() {
         for (int i = 0; i < 60; i++) {
             SlateSum s = new SlateSum();
@@ -446,6 +475,7 @@ public final class SlowModelTests {
         slates(rounds, 1, true);
         slates(rounds / 3, 2, true);
         slates(rounds / 3, 3, false);
+        fewAnswers(rounds * 10);
         manyActs();
         System.out.println(wrong == 0 ? "the slow model agrees" : wrong + " answers are otherwise than the slow model's");
         if (wrong != 0) System.exit(1);
