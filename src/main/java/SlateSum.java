@@ -1254,7 +1254,7 @@ public final class SlateSum {
         int firstWrong() {
             int someX = sheet.numberIn(sheet.rowOfX());
             int someY = sheet.numberIn(sheet.rowOfY());
-            if (!isPossible(someX, someY)) {
+            if (beginsWithNought(sheet.rowOfX()) || beginsWithNought(sheet.rowOfY()) || !isPossible(someX, someY)) {
                 return 10 * sheet.rowOfX();
             }
             reckon(someX, someY);
@@ -1271,6 +1271,10 @@ public final class SlateSum {
                 }
             }
             return NONE;
+        }
+
+        private boolean beginsWithNought(int row) {
+            return sheet.lengthOf(row) > 1 && sheet.signAt(placeOf(row, 0)) == 0;
         }
 
         /** All rows as X and Y ask, each as long as it is then. */

@@ -138,8 +138,9 @@ public final class SlowModelTests {
 
         int wrong() {
             if (lost() + letters() > 0) return -1000000;
-            int x = Integer.parseInt(new String(rows.get(rowX())), base), y = Integer.parseInt(new String(rows.get(1)), base);
-            if (!possible(x, y)) return 10 * rowX();
+            String sx = new String(rows.get(rowX())), sy = new String(rows.get(1));
+            int x = Integer.parseInt(sx, base), y = Integer.parseInt(sy, base);
+            if (!num(x).equals(sx) || !num(y).equals(sy) || !possible(x, y)) return 10 * rowX();
             List<String> real = null;
             real = reckon(x, y);
             for (int r = 0; r < rows.size(); r++) {
@@ -452,6 +453,38 @@ public final class SlowModelTests {
         }
     }
 
+    /** Full slates, right ones with up to two figures otherwise and some of any figures, numbers that begin with 0 among them. */
+    static void fullSlates(int rounds) {
+        for (int i = 0; i < rounds; i++) {
+            Model m = new Model();
+            m.kind = "tdsm".charAt(roll(4));
+            m.base = roll(2) == 0 ? 10 : 4 + roll(7);
+            m.rest = m.kind == 'd' && roll(2) == 0 ? roll(12) : 0;
+            int wx = 1 + roll(3), wy = 1 + roll(2);
+            int x = roll((int) Math.pow(m.base, wx)), y = roll((int) Math.pow(m.base, wy));
+            List<String> real = m.reckon(x, y);
+            int rows = m.kind == 'd' ? 3 + 2 * wx : m.kind == 't' && wy == 2 ? 5 : 3;
+            boolean wild = real == null || real.size() != rows || roll(3) == 0;
+            for (int r = 0; r < rows; r++) {
+                char[] row = new char[r == m.rowX() ? wx : r == 1 ? wy : wild ? 1 + roll(4) : real.get(r).length()];
+                for (int p = 0; p < row.length; p++)
+                    row[p] = !wild && p < real.get(r).length() ? real.get(r).charAt(p) : roll(4) == 0 ? '0' : (char) ('0' + roll(m.base));
+                m.rows.add(row);
+            }
+            for (int n = roll(3); n > 0; n--) {
+                char[] row = m.rows.get(roll(rows));
+                row[roll(row.length)] = (char) ('0' + (roll(2) == 0 ? 0 : roll(m.base)));
+            }
+            SlateSum s = new SlateSum();
+            type(s, textOf(m));
+            due("text(0)", s.text(0), rows, m, "full");
+            due("wrong()", s.wrong(), m.wrong(), m, "full");
+            due("lean(-1)", s.lean(-1), m.wrong() == -1 ? m.lean().size() : -1000000, m, "full");
+            due("answers(-1)", s.answers(-1), m.answers(m.rows).size(), m, "full");
+            due("right has an answer", s.answers(-1), s.wrong() == -1 ? 1 : 0, m, "full");
+        }
+    }
+
     static void manyActs() {
         for (int i = 0; i < 60; i++) {
             SlateSum s = new SlateSum();
@@ -476,6 +509,7 @@ public final class SlowModelTests {
         slates(rounds / 3, 2, true);
         slates(rounds / 3, 3, false);
         fewAnswers(rounds * 10);
+        fullSlates(rounds * 30);
         manyActs();
         System.out.println(wrong == 0 ? "the slow model agrees" : wrong + " answers are otherwise than the slow model's");
         if (wrong != 0) System.exit(1);
