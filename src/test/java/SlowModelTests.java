@@ -509,7 +509,7 @@ public final class SlowModelTests {
         slates(rounds / 3, 2, true);
         slates(rounds / 3, 3, false);
         fewAnswers(rounds * 10);
-        fullSlates(rounds * 30);
+        fullSlates(rounds * 8);
         manyActs();
         System.out.println(wrong == 0 ? "the slow model agrees" : wrong + " answers are otherwise than the slow model's");
         if (wrong != 0) System.exit(1);
