@@ -529,10 +529,10 @@ public final class SlateSum {
             if (stopped) {
                 return TEXT_FAILED;
             }
-            while (next < length && next < bytes.length && bytes[next] == ' ') {
+            while (next >= 0 && next < length && next < bytes.length && bytes[next] == ' ') {
                 next++;
             }
-            return next < length && next < bytes.length ? bytes[next] : TEXT_ENDS;
+            return next >= 0 && next < length && next < bytes.length ? bytes[next] : TEXT_ENDS;
         }
 
         void step() {

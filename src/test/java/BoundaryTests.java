@@ -369,6 +369,17 @@ public final class BoundaryTests {
         costFault("y:!!!!!!1=1&!!!!!!1=1|!!!!!!1=1?1", NONE);
         costFault("y:!!!!!!1=1&!!!!!!!1", 18);
         costFault("y:1=1?[[[[[[1]]]]]];y:[[[[[[[1", 28);
+        String[] ahead = {"y:1=", "y:1+", "y:1*", "y:1=1?", "y:1=1?1-", "y:1;y:", "y:[1]=", "y:[[1]]=1&", "y:1=1|1<"};
+        for (String begun : ahead) {
+            costFault(begun + "[[[[[[[1", begun.length() + 6);
+            costFault(begun + "[[[[[[1", begun.length() + 7);
+        }
+        for (String begun : new String[] {"y:", "y:1=1&", "y:1=1|", "y:!1=1&", "y:(1=1)|", "y:1;y:"}) {
+            for (String opening7 : opening) costFault(begun + times(opening7, 7), begun.length() + 6);
+            for (String opening6 : opening) costFault(begun + times(opening6, 6), begun.length() + 6);
+            costFault(begun + "(!(!([[1", begun.length() + 6);
+            costFault(begun + "(!(!(1=[[1", begun.length() + 8);
+        }
         costFault("y:" + times("[", 158), 8);
         costFault("y:" + times("!", 158), 8);
         costFault("y:" + times("(", 158), 8);
@@ -822,6 +833,14 @@ public final class BoundaryTests {
         due("NONE: no ANSWER of a full one", slate("s;1;1;3").known(), NONE);
     }
 
+    /** X and Y as told and a ROW all lost: an ANSWER by its own length alone. */
+    static void byLengthAlone(String head, String[] rows, int row, int length, boolean own) {
+        String was = rows[row];
+        rows[row] = times("*", length);
+        due("just so many FIGURES as told: " + String.join(";", rows), slate(head + ";" + String.join(";", rows)).answers(NONE), own ? 1 : 0);
+        rows[row] = was;
+    }
+
     /** Every ROW that X and Y do not tell: one FIGURE too few, too many, and each place otherwise. */
     static void eachPlaceWrong(String head, String told, int rowOfX) {
         String[] rows = told.split(";");
@@ -837,6 +856,7 @@ public final class BoundaryTests {
                 if (row != rowOfX && row != 1) due("the place otherwise: " + String.join(";", rows), slate(head + ";" + String.join(";", rows)).wrong(), 10 * row + place);
             }
             if (row != rowOfX && row != 1) {
+                for (int length = 1; length <= 6; length++) byLengthAlone(head, rows, row, length, length == was.length());
                 for (String other : new String[] {"0" + was, was + "0", "111111"}) {
                     rows[row] = other;
                     due("a ROW too long: " + String.join(";", rows), slate(head + ";" + String.join(";", rows)).wrong(), 10 * row);
@@ -974,6 +994,12 @@ public final class BoundaryTests {
 
     static void looks() {
         of("Promise 21");
+        // 22 by 8, 42 by 9, 62 by 6, 72 by 8, 82 by 7, 92 by 3; then 21, 26 and 31 by 6: 126, 156, 186.
+        due("by the first place alone", slate("t;*2;*;*7*").looks(1), 1);
+        due("by the last place alone", slate("t;**;6;1*6").looks(1), 1);
+        due("18 ANSWERS", slate("t;**;**;**;*05;****").answers(NONE), 18);
+        due("18 ANSWERS, not by one LOOK", slate("t;**;**;**;*05;****").looks(1), 0);
+        due("18 ANSWERS by the first place alone, then by others", slate("t;**;**;**;*05;****").looks(2), 1);
         for (int n : new int[] {-1, -2, MIN, 3, MAX}) due("NONE: out of bounds", slate("s;*;*;3").looks(n), NONE);
         for (int n = 0; n < 3; n++) {
             due("one ANSWER, nothing to be looked at", slate("s;1;1;2").looks(n), 1);
@@ -1264,6 +1290,51 @@ public final class BoundaryTests {
         due("bytes of the TAPE without a SLATE", s.count(8), 3);
     }
 
+    /** Whatever can be asked of a slate, but for the acts. */
+    static String asked(SlateSum s) {
+        StringBuilder b = new StringBuilder();
+        b.append(s.lean(NONE)).append(' ').append(s.lean(0)).append(' ').append(s.slip(NONE)).append(' ').append(s.slip(0)).append(' ').append(s.mend());
+        b.append(" heart ").append(s.heart()).append(" looks");
+        for (int n = 0; n < 3; n++) b.append(' ').append(s.looks(n));
+        b.append(" answers ").append(s.answers(NONE)).append(' ').append(s.answers(0)).append(' ').append(s.answers(s.answers(NONE) - 1)).append(' ').append(s.answers(s.answers(NONE) / 2));
+        b.append(" known ").append(s.known()).append(" wrong ").append(s.wrong()).append(" letters");
+        for (int letter = 0; letter < 8; letter++) b.append(' ').append(s.letter(letter));
+        for (int what = 0; what < 2; what++) b.append(" best, cheap, mean ").append(s.best(what)).append(' ').append(s.cheap(what)).append(' ').append(s.mean(what));
+        b.append(" thumbs");
+        for (int row = 0; row < 9; row++) b.append(' ').append(s.thumb(row));
+        for (int row = 0; s.wide(row) != NONE; row++) for (int place = 0; place < s.wide(row); place++) b.append(row + place == 0 ? " can " : " ").append(s.can(row, place));
+        return b.append(" slip ").append(s.slip(s.slip(NONE) - 1)).append(" lean ").append(s.lean(s.lean(NONE) - 1)).append(' ').append(s.wide(0)).toString();
+    }
+
+    /** What was asked ahead leaves no trace: an object asked all along answers as one that never was. */
+    static void noTraceIsLeft() {
+        of("What is asked leaves no trace");
+        String[] texts = {"s;***;**;***", "t;***;**;****;***;*****", "d;***;**;**;**;**;**;0", "s;9;9;18", "dr98;98;99;0;0;98", "tb4;a;b;*", "m;**;*;**", "s;0;0;0",
+            "s;1;1;123456", "d;98901;99;999;891;980;891;891;891;0", "s;12;9;22", "t;*;*;*8", "sb5;*a;b;c0"};
+        for (String first : texts) {
+            for (String then : texts) {
+                SlateSum s = slate(first);
+                asked(s);
+                type(s, then);
+                s.text(0);
+                due("all of " + then + " behind " + first + ":", asked(s), asked(slate(then)));
+            }
+            SlateSum s = slate(first);
+            s.image();
+            s.drawn(5, 30);
+            asked(s);
+            s.back();
+            due("all of " + first + " behind another one drawn:", asked(s), asked(slate(first)));
+            s.rub(0, 0);
+            asked(s);
+            s.undo();
+            s.tell(1, 0, 1);
+            asked(s);
+            s.undo();
+            due("all of " + first + " behind ACTS undone:", asked(s), asked(slate(first)));
+        }
+    }
+
     public static void main(String[] args) {
         usedFor512Calls();
         aSlateText();
@@ -1297,6 +1368,7 @@ public final class BoundaryTests {
         drawing();
         images();
         counts();
+        noTraceIsLeft();
         System.out.println(wrong == 0 ? checks + " answers are as due" : wrong + " of " + checks + " answers are not as due");
         if (wrong != 0) System.exit(1);
     }
