@@ -430,6 +430,16 @@ public final class BoundaryTests {
         due("> by one", worth("y:3>2?1"), 1);
         due("the other way", worth("y:3<2?1"), 0);
         due("the other way", worth("y:2>3?1"), 0);
+        due("TRUTHS with | between, one of three", worth("y:1=2|1=1|1=2?1"), 1);
+        due("TRUTHS with | between, the first", worth("y:1=1|1=2?1"), 1);
+        due("TRUTHS with | between, the last", worth("y:1=2|1=2|1=1?1"), 1);
+        due("TRUTHS with | between, none", worth("y:1=2|1=2|2=1?1"), 0);
+        due("UNITS with & between, all", worth("y:1=1&2=2&3=3?1"), 1);
+        due("UNITS with & between, not the first", worth("y:1=2&2=2&3=3?1"), 0);
+        due("UNITS with & between, not the second", worth("y:1=1&2=1&3=3?1"), 0);
+        due("UNITS with & between, not the last", worth("y:1=1&2=2&3=1?1"), 0);
+        due("TRUTHS of UNITS", worth("y:1=2&1=1|1=1&2=2?1"), 1);
+        due("TRUTHS of UNITS", worth("y:1=2&1=1|1=1&2=1?1"), 0);
         due("of the bounds", worth("y:1000*1000=9999*9999?1"), 1);
         due("of the bounds below", worth("y:0-1000*1000=0-9999*9999-1?1"), 1);
         due("six !", worth("y:!!!!!!1=1?3"), 3);
@@ -494,6 +504,12 @@ public final class BoundaryTests {
         due("none more at 160", full.get().feed(0, 0, 0, 0, 0), 160);
         refused("161 bytes", full, t -> t.feed(1, 0, 0, 0, 0), NONE);
         refused("161 bytes, the last one", full, t -> t.feed(0, 0, 0, 0, 1), NONE);
+        for (int i = 0; i < 20; i++) {
+            int[] n = new int[5];
+            n[i / 4] = 255 << 8 * (i % 4);
+            refused("161 bytes, by each byte", full, t -> t.feed(n[0], n[1], n[2], n[3], n[4]), NONE);
+            due("each byte counts", new SlateSum().feed(n[0], n[1], n[2], n[3], n[4]), 1);
+        }
         refused("180 bytes", full, t -> t.feed(-1, -1, -1, -1, -1), NONE);
         Supplier<SlateSum> nearly = () -> { SlateSum t = fullTape("t;1;2;3"); t.end(150); return t; };
         due("ten more to 160", nearly.get().feed(0x20202020, 0x20202020, 0x20200000, 0, 0), 160);
@@ -520,6 +536,17 @@ public final class BoundaryTests {
         due("the next byte comes behind the first n", type(s, "5"), 8);
         s.text(0);
         due("the first n bytes and the next:", rows(s), "1;2;35");
+        for (int n = 1; n < 7; n++) {
+            s = fullTape("t;1;2;3");
+            s.end(n);
+            due("what is behind the first n is not read", s.fault(0), n);
+            s = fullTape("y" + times(" ", 100));
+            s.end(n);
+            due("blanks behind the first n are not read", s.fault(1), n);
+            s = fullTape("y:1234567");
+            s.end(n);
+            due("digits behind the first n are not read", s.fault(1), n > 2 ? NONE : n);
+        }
     }
 
     static void faults() {
@@ -977,6 +1004,20 @@ public final class BoundaryTests {
         s.cost(3);
         due("the shorter ROW", s.cheap(0), 20);
         due("FIGURES of the ROW", s.cheap(1), 1);
+        String[] letters = {"r", "p", "n", "l", "k"};
+        int[] least = {1, 0, 5, 1, 10};
+        int[] most = {4, 1, 5, 2, 10};
+        for (int i = 0; i < 5; i++) {
+            s = withCosts(slate("t;*;7*;*;*;**"), "y:" + letters[i], "y:0-" + letters[i]);
+            s.cost(0);
+            due("the least " + letters[i], s.cheap(1), least[i]);
+            s.cost(1);
+            due("the largest " + letters[i], s.cheap(1), -most[i]);
+        }
+        s = withCosts(slate("s;*;*;3"), "y:r=0?5");
+        s.cost(0);
+        due("0 without, behind a place that has 5", s.cheap(0), 10);
+        due("0 without, behind a place that has 5", s.cheap(1), 0);
         s = withCosts(slate("t;7;*;*"), "y:0-k;y:1", "y:k=1?0-9;y:k");
         s.cost(0);
         due("just two FIGURES", s.cheap(0), 10);
@@ -1122,6 +1163,15 @@ public final class BoundaryTests {
         due("all differences of one FIGURE", slate("m;1;1;1").heart(), 55);
         due("all products of one FIGURE", slate("t;1;1;1").heart(), 19 + 9 + 4 + 3 + 2 + 1 + 1 + 1 + 1 + 1);
         due("in BASE 4", slate("sb4;1;1;1").heart(), 10);
+        SlateSum s = slate("s;*;*;*");
+        due("sums of one FIGURE", s.heart(), 55);
+        s.tell(0, 0, 1);
+        due("whatever is told", s.heart(), 55);
+        s.image();
+        s.drawn(3, 0);
+        due("9 and 3: sums of two FIGURES", s.heart(), 45);
+        s.back();
+        due("sums of one FIGURE again", s.heart(), 55);
     }
 
     static BigInteger draws;
