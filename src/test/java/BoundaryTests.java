@@ -812,6 +812,7 @@ public final class BoundaryTests {
         due("each FIGURE of BASE 4", slate("sb4;*;0;*").can(0, 0), 15);
         due("one told", slate("s;*;0;*").can(1, 0), 1);
         due("one told, 9", slate("s;9;*;9").can(0, 0), 512);
+        due("each FIGURE behind a place that can be 9", slate("s;***;0;***").can(0, 1), 1023);
         due("SURE: 0", slate("s;9;*;9").sure(1, 0), 0);
         due("SURE: 9", slate("s;*;0;9").sure(0, 0), 9);
         due("not SURE", slate("s;*;0;*").sure(0, 0), NONE);
@@ -880,7 +881,11 @@ public final class BoundaryTests {
                 rows[row] = was.substring(0, place) + "h" + was.substring(place + 1);
                 due("HIDDEN: a letter", slate(head + ";" + String.join(";", rows)).wrong(), HIDDEN);
                 rows[row] = was.substring(0, place) + (was.charAt(place) == '0' ? "1" : "0") + was.substring(place + 1);
-                if (row != rowOfX && row != 1) due("the place otherwise: " + String.join(";", rows), slate(head + ";" + String.join(";", rows)).wrong(), 10 * row + place);
+                if (row == rowOfX || row == 1) continue;
+                SlateSum otherwise = slate(head + ";" + String.join(";", rows));
+                due("the place otherwise: " + String.join(";", rows), otherwise.wrong(), 10 * row + place);
+                due("no ANSWER by it: " + String.join(";", rows), otherwise.answers(NONE), 0);
+                due("one digit has to be lost: " + String.join(";", rows), otherwise.mend(), 1);
             }
             if (row != rowOfX && row != 1) {
                 for (int length = 1; length <= 6; length++) byLengthAlone(head, rows, row, length, length == was.length());
@@ -956,6 +961,10 @@ public final class BoundaryTests {
         due("of several the first", slate("s;*;*;9").best(0), 0);
         due("of several the first, the sum told", slate("s;*;*;9").best(1), 1);
         due("the last place of all", slate("s;1*;1;1*").best(0), 1);
+        due("ahead of a told 0", slate("s;*0;0;*0").best(1), 1);
+        due("the most are left by a 0: nought times 0 .. 9", slate("t;*;*;0").best(1), 10);
+        due("100 and nine of 19", slate("t;*;*;0").mean(0), 109);
+        due("by 19", slate("t;*;*;0").mean(1), 19);
         due("a SURE one ahead leaves all", slate("s;*;9;1*").best(0), 0);
         due("a SURE one ahead leaves all, of m", slate("m;**;1;9*").best(0), 1);
         due("of m nine", slate("m;**;1;9*").best(1), 1);
@@ -1055,6 +1064,12 @@ public final class BoundaryTests {
             due("900 ANSWERS", slate("s;***;0;***").looks(n), NONE);
             due("4 by 3 and 3 by 4 and others", slate("t;*;*;12").looks(n), n == 0 ? 0 : 1);
         }
+        // 2 by 9, 3 by 6, 4 by 7, 6 by 3 and 8, 7 by 4, 8 by 6, 9 by 2: no place is otherwise in all.
+        due("eight ANSWERS, one LOOK too few", slate("t;*;*;*8").looks(1), 0);
+        due("eight ANSWERS, two LOOKS", slate("t;*;*;*8").looks(2), 1);
+        due("six ANSWERS, two LOOKS too few", slate("tb6;bc;*;a5*").looks(2), 0);
+        due("16 ANSWERS, two LOOKS leave more just behind a 0", slate("t;*;**;*;**;*5*").looks(2), 0);
+        due("12 ANSWERS, two LOOKS leave more just behind a 9", slate("t;*;**;**;*6;**6").looks(2), 0);
         due("200, just so many", slate("t;4**;*;***").answers(NONE), 200);
         due("201, just so many", slate("sb6;5*c;*;***").answers(NONE), 201);
     }
@@ -1073,6 +1088,9 @@ public final class BoundaryTests {
         due("NONE: no first one", slate("s;1;1;2").slip(0), NONE);
         due("none, if two are wrong", slate("t;12;14;99;12;168").slip(NONE), 0);
         due("none of lengths that no sum has", slate("s;1;1;123456").slip(NONE), 0);
+        due("a lost one is no slip, 19 for 10 is", slate("s;*;1;19").slip(NONE), 1);
+        due("19 for 10", slate("s;*;1;19").slip(0), 2010);
+        due("a letter is no slip, 19 for 10 is", slate("s;h;1;19").slip(NONE), 1);
         due("lost ones are no slips", slate("s;*;*;**").slip(NONE), 0);
         due("the figure 0 of the last place", slate("s;5;5;19").slip(slate("s;5;5;19").slip(NONE) - 1), 2010);
         due("a first FIGURE is no 0", slate("s;1*;1;9").slip(NONE), 0);
@@ -1131,6 +1149,9 @@ public final class BoundaryTests {
         for (int i : new int[] {3, 4, -2, MIN, MAX}) due("NONE: no such one", s.lean(i), NONE);
         due("the last one", s.lean(2), 21);
         due("ROWS from above: later ones are left", slate("s;0;0;0").lean(0), 20);
+        due("the first place of all is left", slate("t;5;0;0").lean(0), 0);
+        due("the first place of all and the last", slate("t;5;0;0").lean(1), 20);
+        due("the first place of all and the last alone", slate("t;5;0;0").lean(NONE), 2);
         due("HIDDEN: a lost one", slate("s;12;9;2*").lean(NONE), HIDDEN);
         due("HIDDEN: a letter", slate("s;12;9;2a").lean(NONE), HIDDEN);
         due("HIDDEN: wrong at its last place", slate("s;12;9;22").lean(NONE), HIDDEN);
@@ -1353,6 +1374,7 @@ public final class BoundaryTests {
         b.append(" thumbs");
         for (int row = 0; row < 9; row++) b.append(' ').append(s.thumb(row));
         for (int row = 0; s.wide(row) != NONE; row++) for (int place = 0; place < s.wide(row); place++) b.append(row + place == 0 ? " can " : " ").append(s.can(row, place));
+        b.append(' ').append(s.answers(0)).append(' ').append(s.answers(1));
         return b.append(" slip ").append(s.slip(s.slip(NONE) - 1)).append(" lean ").append(s.lean(s.lean(NONE) - 1)).append(' ').append(s.wide(0)).toString();
     }
 
