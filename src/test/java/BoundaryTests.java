@@ -1,4 +1,5 @@
 import java.math.BigInteger;
+import java.util.List;
 import java.util.NoSuchElementException;
 import java.util.function.Supplier;
 import java.util.function.ToLongFunction;
@@ -1407,6 +1408,28 @@ public final class BoundaryTests {
         }
     }
 
+    /** Each question behind each other one, asked ahead of it and not. */
+    static void inAnyOrder() {
+        of("What is asked leaves no trace");
+        List<ToLongFunction<SlateSum>> asks = List.of(s -> s.answers(NONE), s -> s.answers(0), s -> s.answers(1), s -> s.answers(2), s -> s.can(0, 0),
+            s -> s.sure(2, 0), s -> s.letter(0), s -> s.known(), s -> s.wrong(), s -> s.best(0), s -> s.best(1), s -> s.cheap(0), s -> s.cheap(1), s -> s.mean(0),
+            s -> s.mean(1), s -> s.looks(0), s -> s.looks(1), s -> s.looks(2), s -> s.slip(NONE), s -> s.slip(0), s -> s.thumb(0), s -> s.thumb(1), s -> s.thumb(2),
+            s -> s.mend(), s -> s.lean(NONE), s -> s.lean(0), s -> s.lean(1), s -> s.heart(), s -> s.unlike(), s -> s.fault(1));
+        for (String text : new String[] {"s;*;*;3", "t;*;a;1*", "s;12;9;21", "dr1;**;*;*;*;1", "m;5;8;*"}) {
+            for (int i = 0; i < asks.size(); i++) {
+                for (int j = 0; j < asks.size(); j++) {
+                    SlateSum s = slate(text);
+                    long alone = asks.get(i).applyAsLong(s);
+                    asks.get(j).applyAsLong(s);
+                    due("question " + i + " of " + text + " once more behind question " + j, asks.get(i).applyAsLong(s), alone);
+                    s = slate(text);
+                    asks.get(j).applyAsLong(s);
+                    due("question " + i + " of " + text + " behind question " + j, asks.get(i).applyAsLong(s), alone);
+                }
+            }
+        }
+    }
+
     public static void main(String[] args) {
         usedFor512Calls();
         aSlateText();
@@ -1441,6 +1464,7 @@ public final class BoundaryTests {
         images();
         counts();
         noTraceIsLeft();
+        inAnyOrder();
         System.out.println(wrong == 0 ? checks + " answers are as due" : wrong + " of " + checks + " answers are not as due");
         if (wrong != 0) System.exit(1);
     }
